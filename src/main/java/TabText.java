@@ -171,6 +171,7 @@ public final class TabText {
         Order order = new Order(cells().lines());
         order.move(from, to);
         arrange(order);
+        measure(layout);
         return layout.blocks.size();
     }
 
@@ -186,6 +187,7 @@ public final class TabText {
         int column = layout.blocks.column(block);
         sortLines(order, first + skip, last, column, descending);
         arrange(order);
+        measure(layout);
         return order.moved();
     }
 
@@ -482,7 +484,6 @@ public final class TabText {
             }
             after.addFrom(before, cells().lineStart(line), cells().lineEnd(line));
         }
-        measure(layout);
     }
 
     // By insertion, because lines that are equal have to keep their sequence.
@@ -1163,7 +1164,7 @@ public final class TabText {
                     return false;
                 }
             }
-            boolean fractionFits = hasPoint ? decimals >= 1 && decimals <= 4 : true;
+            boolean fractionFits = !hasPoint || decimals >= 1 && decimals <= 4;
             return digits >= 1 && digits <= 9 && fractionFits;
         }
 
@@ -1233,40 +1234,64 @@ public final class TabText {
         }
 
         private void measureBlock(int block, Cells cells, Format format) {
-            int column = columns[block];
-            int whole = 0;
-            int fraction = 0;
-            int lengthOfOthers = 0;
-            int greatestLength = 0;
-            boolean hasStrayWord = false;
+            addNumbers(block, cells);
+            int setting = format.alignment(columns[block]);
+            if (setting == AUTOMATIC && isDecimal(block, cells)) {
+                alignments[block] = DECIMAL;
+                measureDecimal(block, cells);
+            } else {
+                alignments[block] = setting == AUTOMATIC ? LEFT : setting;
+                measurePlain(block, cells);
+            }
+            widths[block] = format.widthFor(contents[block]);
+        }
+
+        private void addNumbers(int block, Cells cells) {
             numbers[block] = 0;
             totals[block] = 0;
             for (int line = firsts[block]; line <= lasts[block]; line++) {
-                int length = cells.length(line, column);
-                greatestLength = Math.max(greatestLength, length);
-                if (cells.kind(line, column) == NUMBER) {
+                if (cells.kind(line, columns[block]) == NUMBER) {
                     numbers[block]++;
-                    totals[block] += cells.value(line, column);
+                    totals[block] += cells.value(line, columns[block]);
+                }
+            }
+        }
+
+        private boolean isDecimal(int block, Cells cells) {
+            // The cell in the first line may be the heading of the numbers below it.
+            for (int line = firsts[block] + 1; line <= lasts[block]; line++) {
+                if (cells.kind(line, columns[block]) == WORD) {
+                    return false;
+                }
+            }
+            return numbers[block] > 0;
+        }
+
+        private void measureDecimal(int block, Cells cells) {
+            int column = columns[block];
+            int whole = 0;
+            int fraction = 0;
+            int others = 0;
+            for (int line = firsts[block]; line <= lasts[block]; line++) {
+                int length = cells.length(line, column);
+                if (cells.kind(line, column) == NUMBER) {
                     whole = Math.max(whole, cells.whole(line, column));
                     fraction = Math.max(fraction, length - cells.whole(line, column));
                 } else {
-                    lengthOfOthers = Math.max(lengthOfOthers, length);
-                    // The cell in the first line may be the heading of a column of numbers.
-                    if (line > firsts[block] && cells.kind(line, column) == WORD) {
-                        hasStrayWord = true;
-                    }
+                    others = Math.max(others, length);
                 }
             }
-            boolean automatic = format.alignment(column) == AUTOMATIC;
-            boolean decimal = automatic && numbers[block] > 0 && !hasStrayWord;
-            fractions[block] = decimal ? fraction : 0;
-            contents[block] = decimal ? Math.max(whole + fraction, lengthOfOthers) : greatestLength;
-            widths[block] = format.widthFor(contents[block]);
-            if (decimal) {
-                alignments[block] = DECIMAL;
-            } else {
-                alignments[block] = automatic ? LEFT : format.alignment(column);
+            fractions[block] = fraction;
+            contents[block] = Math.max(whole + fraction, others);
+        }
+
+        private void measurePlain(int block, Cells cells) {
+            int greatest = 0;
+            for (int line = firsts[block]; line <= lasts[block]; line++) {
+                greatest = Math.max(greatest, cells.length(line, columns[block]));
             }
+            fractions[block] = 0;
+            contents[block] = greatest;
         }
 
         int size() {
@@ -1302,31 +1327,31 @@ public final class TabText {
         }
 
         int column(int block) {
-            return fact(block, 0);
+            return has(block) ? columns[block] : 0;
         }
 
         int first(int block) {
-            return fact(block, 1);
+            return has(block) ? firsts[block] : 0;
         }
 
         int last(int block) {
-            return fact(block, 2);
+            return has(block) ? lasts[block] : 0;
         }
 
         int width(int block) {
-            return fact(block, 3);
+            return has(block) ? widths[block] : 0;
         }
 
         int alignment(int block) {
-            return fact(block, 4);
+            return has(block) ? alignments[block] : 0;
         }
 
         int numbers(int block) {
-            return fact(block, 6);
+            return has(block) ? numbers[block] : 0;
         }
 
         int fractionWidth(int block) {
-            return fact(block, 7);
+            return has(block) ? fractions[block] : 0;
         }
 
         long total(int block) {

@@ -264,5 +264,11 @@ final class BlockTest {
         check.due("moved", 7, () -> x.moveLine(0, 23));
         check.due("undo", 9, x::undo);
         check.dueState("type", () -> x.type(23, 7, 16, '1'));
+        check.due("erase of the last sign", (int) '1', () -> x.erase(23, 7, 15));
+        check.due("the last sign again", 16, () -> x.type(23, 7, 15, '2'));
+        check.due("the last sign", (int) '2', () -> x.letter(23, 7, 15));
+        check.due("the last cell is set", 16, () -> x.setCell(23, 7));
+        check.due("the first cell is set", 16, () -> x.setCell(0, 0));
+        check.due("signs", 16 * 190, () -> x.count(2));
     }
 }

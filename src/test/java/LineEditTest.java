@@ -118,6 +118,9 @@ final class LineEditTest {
         for (int skip : new int[] {-1, 3, MAX, MIN}) {
             check.dueRefused(x, "IllegalArgumentException", "skip " + skip, () -> x.sort(0, skip, false));
         }
+        TabText lower = Check.text("q/q/b|/a|");
+        check.due("skip of all lines", 0, () -> lower.sort(0, 2, false));
+        check.dueRefused(lower, "IllegalArgumentException", "skip of more", () -> lower.sort(0, 3, false));
     }
 
     private static void insertColumn() {
@@ -136,6 +139,8 @@ final class LineEditTest {
         }
         TabText full = Check.text("a|/|||||||/b|");
         check.dueRefused(full, "IllegalStateException", "a line of 8 cells", () -> full.insertColumn(0));
+        TabText fullAtTheEnd = Check.text("a|/b|/|||||||");
+        check.dueRefused(fullAtTheEnd, "IllegalStateException", "a last line of 8", () -> fullAtTheEnd.insertColumn(0));
         TabText apart = Check.text("a|b/c/|||||||");
         check.due("a line of 8 cells in another block", 1, () -> apart.insertColumn(0));
     }

@@ -234,6 +234,9 @@ final class ViewTest {
         check.due("find leaves the buffer", 1, x::clearInput);
         check.due("find of an empty cell", 201, () -> x.find(0, 0));
         check.due("no more empty cells", -1, () -> x.find(2, 1));
+        Check.input(x, "b");
+        check.due("find of a first cell", 100, () -> x.find(0, 1));
+        x.clearInput();
         Check.input(x, "A");
         check.due("find of another letter", -1, () -> x.find(0, 0));
         Check.input(x, "|");
