@@ -27,7 +27,21 @@ final class FaceTest {
         nothingElseVisible();
         nestedClasses();
         sourceRules();
+        everySectionTested();
         check.end("FaceTest");
+    }
+
+    /** Each section of the document is one of those whose sentences a test goes through. */
+    private static void everySectionTested() throws IOException {
+        StringBuilder tests = new StringBuilder();
+        for (String name : new String[] {"Text", "Input", "Sign", "Line", "View", "Block"}) {
+            tests.append(Files.readString(Path.of("src/test/java", name + "SentencesTest.java")));
+        }
+        check.due("the sections of the document", 34, () -> Document.sections().size());
+        for (String section : Document.sections()) {
+            boolean found = tests.indexOf("doc.section(\"" + section + "\");") >= 0;
+            check.due("a test goes through " + section, true, () -> found);
+        }
     }
 
     private static void sameFace() throws IOException {
