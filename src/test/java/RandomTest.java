@@ -13,6 +13,12 @@ final class RandomTest {
         "+1", "1,5", "(1)", "50%", "a:b", "abcdefghijklmnop", "                ", "12.25", "3.1234", "9"
     };
 
+    // Texts that are full in one way, so that the calls after them come to the bounds.
+    private static final String[] FULL = {
+        "||||/".repeat(23) + "||||", "|||||||//".repeat(11) + "|||||||/", "|||||||/".repeat(14) + "|||||||",
+        "abcdefghijklmnop|".repeat(7), "0123456789      /".repeat(7), "/".repeat(23), "1|/".repeat(23) + "22.5|"
+    };
+
     private final Random random;
     private final Model model = new Model();
     private final TabText text = new TabText();
@@ -28,6 +34,9 @@ final class RandomTest {
         int most = 0;
         for (int run = 0; run < RUNS; run++) {
             RandomTest test = new RandomTest(run);
+            if (run % 4 == 1) {
+                test.start(FULL[run / 4 % FULL.length]);
+            }
             // Some runs go on for longer, because the machine must not throw after the 512th call.
             String fault = test.run(run % 20 == 0 ? 4 * CALLS : CALLS);
             if (fault != null) {
@@ -40,6 +49,16 @@ final class RandomTest {
         if (wrong != 0) {
             System.exit(1);
         }
+    }
+
+    private void start(String full) {
+        for (char c : full.toCharArray()) {
+            text.append(c);
+            model.append(c);
+        }
+        text.load();
+        model.load();
+        calls = full.length() + 1;
     }
 
     private String run(int limit) {

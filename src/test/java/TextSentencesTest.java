@@ -329,6 +329,23 @@ final class TextSentencesTest {
             eleven.due(left, "undo()").written(Check.times("a", left + 1));
         }
         eleven.refused(STATE, "undo()").written("a");
+        keptOfMany();
+    }
+
+    /** Many more edits than texts are kept: the last ten can be undone and redone. */
+    private static void keptOfMany() {
+        Tried many = doc.fresh();
+        for (int i = 10; i <= 45; i++) {
+            many.input(String.valueOf(i)).then("load()");
+        }
+        for (int left = 9; left >= 0; left--) {
+            many.due(left, "undo()").written(String.valueOf(35 + left));
+        }
+        many.refused(STATE, "undo()");
+        for (int left = 9; left >= 0; left--) {
+            many.due(left, "redo()").written(String.valueOf(45 - left));
+        }
+        many.refused(STATE, "redo()").due(10, "count(7)");
     }
 
     private static void undoAndRedo() {
