@@ -5,7 +5,9 @@ import java.lang.reflect.Method;
 import java.lang.reflect.Modifier;
 import java.nio.file.Files;
 import java.nio.file.Path;
+import java.util.ArrayList;
 import java.util.Arrays;
+import java.util.List;
 import java.util.Set;
 import java.util.TreeSet;
 import java.util.regex.Matcher;
@@ -24,6 +26,8 @@ final class FaceTest {
 
     public static void main(String[] args) throws IOException {
         sameFace();
+        sameConstants();
+        sameGroups();
         nothingElseVisible();
         nestedClasses();
         sourceRules();
@@ -65,6 +69,42 @@ final class FaceTest {
         Constructor<?>[] made = TabText.class.getDeclaredConstructors();
         check.due("the constructors", "[public TabText()]", () -> Arrays.toString(made));
         check.due("the class", "public final", () -> Modifier.toString(TabText.class.getModifiers()));
+    }
+
+    /** The constants of the face, and no other one that can be seen. */
+    private static void sameConstants() throws IOException {
+        Set<String> due = new TreeSet<>();
+        Matcher row = Pattern.compile("(public static final \\w+ \\w+ = .*);").matcher(Files.readString(DOCUMENT));
+        while (row.find()) {
+            due.add(row.group(1));
+        }
+        Set<String> got = new TreeSet<>();
+        for (Field field : TabText.class.getFields()) {
+            String value = Check.answer(() -> field.get(null));
+            got.add(Modifier.toString(field.getModifiers()) + " " + field.getType() + " " + field.getName() + " = " + value);
+        }
+        check.due("the number of constants", 1, due::size);
+        check.due("the constants", due, () -> got);
+    }
+
+    /** The groups of calls with the words that the document puts ahead of each one. */
+    private static void sameGroups() throws IOException {
+        List<String> due = new ArrayList<>();
+        Matcher group = Pattern.compile("Ahead of the calls (.*) the interface says: (---- .*)\\.")
+                .matcher(Files.readString(DOCUMENT));
+        while (group.find()) {
+            due.add(group.group(2));
+            due.addAll(List.of(group.group(1).replace("`", "").split(", ")));
+        }
+        List<String> got = new ArrayList<>();
+        Matcher row = Pattern.compile("(?m)^    (?:// (---- .*)|public \\w+ (\\w+)\\(.*)$").matcher(Files.readString(SOURCE));
+        while (row.find()) {
+            got.add(row.group(1) != null ? row.group(1) : row.group(2));
+        }
+        // Behind the public calls the class has a group of its own.
+        int last = got.size() - 1;
+        check.due("the groups and their calls", 36, due::size);
+        check.due("the groups and their calls", due, () -> got.subList(0, last));
     }
 
     private static String written(Method method) {

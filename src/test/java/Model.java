@@ -1,8 +1,11 @@
 import java.util.ArrayDeque;
 import java.util.ArrayList;
 import java.util.Comparator;
+import java.util.HashMap;
 import java.util.List;
+import java.util.Map;
 import java.math.BigDecimal;
+import java.util.regex.Pattern;
 
 /**
  * The document once more, written as plainly as its words with the Java library: lines are lists of
@@ -13,6 +16,8 @@ final class Model {
     private static final String SIGNS =
             "abcdefghijklmnopqrstuvwxyzABCDEFGHIJKLMNOPQRSTUVWXYZ0123456789 .,-+:%()";
 
+    private static final Pattern NUMBER = Pattern.compile("-?[0-9]{1,9}(\\.[0-9]{1,4})?");
+
     private record Block(int column, int first, int last) { }
 
     private List<List<String>> text = new ArrayList<>();
@@ -21,6 +26,9 @@ final class Model {
     private String buffer = "";
     private final int[] alignments = {3, 3, 3, 3, 3, 3, 3};
     private final int[] spacing = {2, 0, 1};
+    // While digest looks at everything, the blocks and their widths are found once: it would take minutes else.
+    private List<Block> knownBlocks = null;
+    private final Map<Block, Integer> knownWidths = new HashMap<>();
 
     Model() {
         text.add(new ArrayList<>(List.of("")));
@@ -412,6 +420,22 @@ final class Model {
     }
 
     long digest() {
+        knownBlocks = findBlocks();
+        long hash = hash(allValues());
+        knownBlocks = null;
+        knownWidths.clear();
+        return hash;
+    }
+
+    private static long hash(List<Long> values) {
+        long hash = 1949;
+        for (long value : values) {
+            hash = 31 * hash + value;
+        }
+        return hash;
+    }
+
+    private List<Long> allValues() {
         List<Long> values = new ArrayList<>();
         for (int what = 0; what <= 8; what++) {
             values.add((long) count(what));
@@ -441,16 +465,16 @@ final class Model {
         }
         values.add((long) buffer.length());
         buffer.chars().forEach(c -> values.add((long) c));
-        long hash = 1949;
-        for (long value : values) {
-            hash = 31 * hash + value;
-        }
-        return hash;
+        return values;
     }
 
     // ---- the document's terms
 
     private List<Block> blocks() {
+        return knownBlocks == null ? findBlocks() : knownBlocks;
+    }
+
+    private List<Block> findBlocks() {
         List<Block> blocks = new ArrayList<>();
         for (int column = 0; column < 7; column++) {
             int first = -1;
@@ -488,7 +512,7 @@ final class Model {
         if (s.isBlank()) {
             return 0;
         }
-        return s.matches("-?[0-9]{1,9}(\\.[0-9]{1,4})?") ? 1 : 2;
+        return NUMBER.matcher(s).matches() ? 1 : 2;
     }
 
     private List<String> cells(Block b) {
@@ -533,6 +557,10 @@ final class Model {
     }
 
     private int width(Block b) {
+        return knownBlocks == null ? findWidth(b) : knownWidths.computeIfAbsent(b, this::findWidth);
+    }
+
+    private int findWidth(Block b) {
         int width = Math.max(contentWidth(b), spacing[1]) + spacing[0];
         while (width % spacing[2] != 0) {
             width++;

@@ -136,7 +136,8 @@ final class Tried {
         return call.substring(0, call.indexOf('('));
     }
 
-    private static String answer(TabText x, String call) {
+    /** What a written call answers, "throws." with its name for an exception. */
+    static String answer(TabText x, String call) {
         Method method = methodOf(nameOf(call));
         String list = call.substring(call.indexOf('(') + 1, call.lastIndexOf(')'));
         String[] parts = list.isEmpty() ? new String[0] : list.split(", ");
